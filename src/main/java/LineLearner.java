@@ -149,14 +149,14 @@ public final class LineLearner {
         aligner.join(format, line);
         int tokens = lines.tokenCounts[line];
         for (int t = 0; t < tokens; t++) {
-            usedSlots[placeOf(line, t)] = aligner.joined[t];
+            usedSlots[placeOf(line, t)] = aligner.slotsOfTokens[t];
         }
         merged[line] = true;
         return cost;
     }
 
     public int clear() {
-        int before = format.lines;
+        int before = format.joinedLines;
         format.makeEmpty();
         for (int i = 0; i < MOST_LINES; i++) {
             merged[i] = false;
@@ -279,7 +279,7 @@ public final class LineLearner {
             int id = format.order[slot];
             sum += 4 + 8 * Math.max(0, textSize(id));
             if (format.canMiss(id)) {
-                sum += format.lines;
+                sum += format.joinedLines;
             }
         }
         for (int line = 0; line < lines.count; line++) {
@@ -370,7 +370,7 @@ public final class LineLearner {
         d = addLines(d);
         d = mixed(mixed(mixed(d, aligner.change), aligner.skip), aligner.fresh);
         d = addSlots(d);
-        d = mixed(d, format.lines);
+        d = mixed(d, format.joinedLines);
         if (isGrouped) {
             for (int line = 0; line < lines.count; line++) {
                 d = mixed(d, groupsOfLines[line]);
@@ -506,17 +506,18 @@ public final class LineLearner {
         private void cut(int line) {
             int first = firstByteOf(line);
             int tokens = 0;
+            int place = first;
             int last = NONE;
             for (int i = 0; i < sizes[line]; i++) {
                 int kind = kindOf(bytes[first + i]);
                 if (kind != last || kind == SIGN) {
-                    int place = placeOf(line, tokens);
+                    place = placeOf(line, tokens);
                     kinds[place] = kind;
                     starts[place] = first + i;
                     tokenSizes[place] = 0;
                     tokens++;
                 }
-                tokenSizes[placeOf(line, tokens - 1)]++;
+                tokenSizes[place]++;
                 last = kind;
             }
             tokenCounts[line] = tokens;
@@ -576,7 +577,7 @@ public final class LineLearner {
     /** A row of slots. A slot keeps its number in the rows; only the order changes when others come in. */
     private static final class Format {
         private int size;
-        private int lines;
+        private int joinedLines;
         private final int[] order = new int[MOST_SLOTS];
         private final int[] kinds = new int[MOST_SLOTS];
         private final int[] texts = new int[MOST_SLOTS];
@@ -586,11 +587,11 @@ public final class LineLearner {
 
         void makeEmpty() {
             size = 0;
-            lines = 0;
+            joinedLines = 0;
         }
 
         boolean canMiss(int id) {
-            return useCounts[id] < lines;
+            return useCounts[id] < joinedLines;
         }
 
         /** The caller has seen that there is room; it also gives the slot its place in the order. */
@@ -631,7 +632,7 @@ public final class LineLearner {
         private int stepCount;
         private int freshCount;
         /** By token of the line that was joined last: the slot that it has used. */
-        private final int[] joined = new int[MOST_BYTES];
+        private final int[] slotsOfTokens = new int[MOST_BYTES];
         /** Whether the slots looked at so far can match so many tokens. */
         private final boolean[] reached = new boolean[WIDTH];
 
@@ -695,20 +696,22 @@ public final class LineLearner {
             int cost = leastCost(format, line);
             int slots = format.size;
             int tokens = lines.tokenCounts[line];
+            int count = 0;
             freshCount = 0;
-            for (stepCount = 0; stepCount < MOST_STEPS && slots + tokens > 0; stepCount++) {
+            while (count < MOST_STEPS && slots + tokens > 0) {
                 int step = lastStep(format, line, slots, tokens);
-                steps[stepCount] = step;
-                if (step != FRESH) {
+                steps[count] = step;
+                count++;
+                if (step == FRESH) {
+                    freshCount++;
+                } else {
                     slots--;
                 }
                 if (step != SKIP) {
                     tokens--;
                 }
-                if (step == FRESH) {
-                    freshCount++;
-                }
             }
+            stepCount = count;
             return cost;
         }
 
@@ -754,11 +757,11 @@ public final class LineLearner {
                 }
                 if (steps[i] != SKIP) {
                     tokens--;
-                    joined[tokens] = id;
+                    slotsOfTokens[tokens] = id;
                 }
                 format.order[to] = id;
             }
-            format.lines++;
+            format.joinedLines++;
         }
 
         /** Whether the line fits the format. */

@@ -83,6 +83,17 @@ public final class FitsTest {
         fits(y, "----c", false);
         fits(y, "-b-a", false);
         fits(y, "c-", false);
+        LineLearner z = Texts.withMerged("a-", "-");
+        fits(z, "-", true);
+        fits(z, "a-", true);
+        fits(z, "a", false);
+        fits(z, "--", false);
+        fits(z, "-a", false);
+        fits(z, "", false);
+        LineLearner w = Texts.withMerged("-a", "-");
+        fits(w, "-", true);
+        fits(w, "a", false);
+        fits(w, "-a", true);
     }
 
     private static void costsDoNotMatter() {

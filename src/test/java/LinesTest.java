@@ -45,6 +45,9 @@ public final class LinesTest {
         CHECK.same("feed(0) to 30", x.feed(0L), 30);
         CHECK.refuses("feed of the 31st", x, IllegalStateException.class, () -> x.feed(97L));
         CHECK.refuses("feed of a wrong 31st", x, IllegalArgumentException.class, () -> x.feed(127L));
+        x.store();
+        Texts.feed(x, THIRTY.substring(0, 22));
+        CHECK.same("feed of 8 to 22", x.feed(Texts.packed("abcdefgh")), 30);
         CHECK.refuses("feed of a wrong and a right one", x, IllegalArgumentException.class, () -> x.feed(0x611FL));
     }
 

@@ -13,6 +13,7 @@ public final class SlotsTest {
         distinctTells();
         risingTells();
         risingInTheOrderOfLines();
+        allIsFull();
         slotsRefuse();
         linesRefuse();
         CHECK.finish();
@@ -154,6 +155,38 @@ public final class SlotsTest {
         CHECK.same("isRising of lines 2, 0 and 1", x.isRising(0), true);
         x.merge(3);
         CHECK.same("isRising of all", x.isRising(0), false);
+    }
+
+    /** Twelve lines of thirty tokens, one byte each: the last row of everything is in use. */
+    private static void allIsFull() {
+        LineLearner x = new LineLearner();
+        for (int line = 0; line < 12; line++) {
+            Texts.feed(x, "a1-a1-a1-a1-a1-a1-a1-a1-a1-a1");
+            Texts.store(x, "" + (char) (line == 11 ? '?' : '-'));
+            CHECK.same("merge(" + line + ")", x.merge(line), line == 0 ? 120 : line == 11 ? 2 : 0);
+        }
+        CHECK.same("slotCount()", x.slotCount(), 30);
+        CHECK.same("tokenCount(11)", x.tokenCount(11), 30);
+        CHECK.same("tokenStart(11, 29)", x.tokenStart(11, 29), 29);
+        CHECK.same("sameAtFront(0, 11)", x.sameAtFront(0, 11), 29);
+        CHECK.same("sameAtFront(0, 10)", x.sameAtFront(0, 10), 30);
+        CHECK.same("tokenAt(11, 29)", x.tokenAt(11, 29), 29);
+        CHECK.same("uses(29)", x.uses(29), 12);
+        CHECK.same("distinct(28)", x.distinct(28), 1);
+        CHECK.same("distinct(29)", x.distinct(29), 2);
+        CHECK.same("isRising(28)", x.isRising(28), false);
+        CHECK.same("fits(11)", x.fits(11), true);
+        CHECK.same("strangest()", x.strangest(), 0);
+        CHECK.same("bits()", x.bits(), 30 * 4 + 29 * 8 + 12 * 8);
+        CHECK.same("saving()", x.saving(), 1.0 - 448.0 / (12 * 248));
+        CHECK.same("group(1)", x.group(1), 2);
+        CHECK.same("groupOf(11)", x.groupOf(11), 1);
+        LineLearner y = new LineLearner();
+        for (int line = 0; line < 12; line++) {
+            Texts.store(y, "" + line);
+            y.merge(line);
+        }
+        CHECK.same("isRising of twelve", y.isRising(0), true);
     }
 
     private static void slotsRefuse() {
