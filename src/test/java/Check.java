@@ -8,6 +8,10 @@ final class Check {
         this.name = name;
     }
 
+    int counted() {
+        return passed + failed;
+    }
+
     void same(String what, long got, long want) {
         count(got == want, what + " answered " + got + ", due is " + want);
     }
@@ -24,17 +28,11 @@ final class Check {
         count(got.equals(want), what + " answered " + got + ", due is " + want);
     }
 
-    /** The very exception is due, and nothing that the object answers may be another than before. */
+    /** The very exception is due, and the same checksum as before; the tests of edges look at all the rest too. */
     void refuses(String what, LineLearner x, Class<? extends RuntimeException> due, Runnable call) {
-        String before = Texts.stateOf(x);
-        String got = "nothing";
-        try {
-            call.run();
-        } catch (RuntimeException e) {
-            got = e.getClass().getName();
-        }
-        same(what + " throws", got, due.getName());
-        same(what + " changes nothing", Texts.stateOf(x), before);
+        long before = x.digest();
+        same(what + " throws", Texts.thrownBy(call), due.getName());
+        same(what + " changes nothing", x.digest(), before);
     }
 
     private void count(boolean holds, String otherwise) {

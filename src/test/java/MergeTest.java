@@ -241,9 +241,9 @@ public final class MergeTest {
         CHECK.same("costWith(2)", x.costWith(2), 6);
         CHECK.same("costWith(3)", x.costWith(3), 9);
         CHECK.same("costWith(4)", x.costWith(4), 6);
-        String before = Texts.stateOf(x);
+        String before = Texts.wholeOf(x);
         x.costWith(2);
-        CHECK.same("nothing is merged", Texts.stateOf(x), before);
+        CHECK.same("nothing is merged", Texts.wholeOf(x), before);
         x.merge(1);
         CHECK.same("costWith(0) of a changed format", x.costWith(0), 1);
     }

@@ -8,7 +8,7 @@ import java.util.Map;
 public final class ModelTest {
     private static final Check CHECK = new Check("ModelTest");
     private static final int RUNS = 1000;
-    private static final int CALLS = 511;
+    private static final int CALLS = 512;
     private static final String[] PARTS = {"a", "b", "ab", "id", "1", "2", "12", "007", " ", "  ", "-", "?", "=", ":",
         "a", "-", "1", " ", "40000000", "9999999"};
     private static final String[] SHORT_PARTS = {"-", "a", "1", "-1", "a-", "1a"};

@@ -28,6 +28,6 @@ public final class NewObjectTest {
         x.group(0);
         Texts.feed(x, "c");
         check.same("digest() of the other one", y.digest(), new LineLearner().digest());
-        check.same("state of the other one", Texts.stateOf(y), Texts.stateOf(new LineLearner()));
+        check.same("state of the other one", Texts.wholeOf(y), Texts.wholeOf(new LineLearner()));
     }
 }

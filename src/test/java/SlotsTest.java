@@ -162,7 +162,7 @@ public final class SlotsTest {
         LineLearner x = new LineLearner();
         for (int line = 0; line < 12; line++) {
             Texts.feed(x, "a1-a1-a1-a1-a1-a1-a1-a1-a1-a1");
-            Texts.store(x, "" + (char) (line == 11 ? '?' : '-'));
+            Texts.store(x, "" + (line == 11 ? '?' : '-'));
             CHECK.same("merge(" + line + ")", x.merge(line), line == 0 ? 120 : line == 11 ? 2 : 0);
         }
         CHECK.same("slotCount()", x.slotCount(), 30);
